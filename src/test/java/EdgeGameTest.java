@@ -1,7 +1,7 @@
 import java.util.function.Consumer;
 import java.util.function.Function;
 
-/** The edges of the row: no game, the first position, the last one taken back, a new game, a full row, the last call. */
+/** The edges of the row: no game, the first position, the last one taken back, a full row, the last call. */
 public final class EdgeGameTest {
     private static final int CALLS = 512;
     private static final int MOST_POSITIONS = 640;
